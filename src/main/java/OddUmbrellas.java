@@ -760,7 +760,7 @@ public final class OddUmbrellas {
             int together = fitting - missed * office.setting(OFF_FOR_MISS)
                     - office.claims.cell(claim, DOUBTS) * office.setting(OFF_FOR_DOUBT);
             int pair = pairOf(umbrella, claim);
-            if (pair != NONE) {
+            if (pair >= 0 && pair < PAIRS) {
                 misses[pair] = missed;
                 worth[pair] = together;
                 suiting[pair] = missed <= office.setting(MISSES_ALLOWED)
@@ -783,7 +783,7 @@ public final class OddUmbrellas {
 
         private boolean suits(int umbrella, int claim) {
             int pair = pairOf(umbrella, claim);
-            return pair != NONE && suiting[pair];
+            return pair >= 0 && pair < PAIRS && suiting[pair];
         }
 
         int claimsSuiting(int umbrella) {
@@ -898,7 +898,7 @@ public final class OddUmbrellas {
         int reasonAgainst(int umbrella, int claim, Office office) {
             int pair = pairOf(umbrella, claim);
             int other = claimMatched(umbrella);
-            if (pair == NONE || other == claim) {
+            if (pair < 0 || pair >= PAIRS || other == claim) {
                 return 0;
             }
             if (misses[pair] > office.setting(MISSES_ALLOWED)) {
@@ -946,7 +946,7 @@ public final class OddUmbrellas {
             int next = NONE;
             for (int umbrella = 0; umbrella < umbrellas; umbrella++) {
                 int pair = pairOf(umbrella, claim);
-                if (pair != NONE && suiting[pair] && !asked[pair]) {
+                if (pair >= 0 && pair < PAIRS && suiting[pair] && !asked[pair]) {
                     next = aheadOf(pair, next);
                 }
             }
