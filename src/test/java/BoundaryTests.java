@@ -24,6 +24,8 @@ public final class BoundaryTests {
     private static String sentence = "";
 
     public static void main(String[] args) {
+        constants();
+        calls512();
         aNewObject();
         umbrellasAtOnce();
         claimsAtOnce();
@@ -337,6 +339,35 @@ public final class BoundaryTests {
         y.due("fault 0", NOT_FOUND).due("fault 1", NOT_FOUND).due("fault 2", NOT_FOUND).due("play", orders);
     }
 
+    private static void constants() {
+        sentence("The constants: INVALID_ARGUMENT = -1000001 .. NOT_FOUND = -1000004");
+        int[] got = {OddUmbrellas.INVALID_ARGUMENT, OddUmbrellas.NOT_POSSIBLE, OddUmbrellas.LIMIT_REACHED, OddUmbrellas.NOT_FOUND};
+        int[] due = {INVALID, NOT_POSSIBLE, LIMIT, NOT_FOUND};
+        for (int i = 0; i < got.length; i++) {
+            answers++;
+            if (got[i] != due[i]) {
+                fail("constant " + i + " is " + got[i]);
+            }
+        }
+    }
+
+    private static void calls512() {
+        sentence("An object is used for at most 512 calls after it has been made");
+        Desk x = new Desk().all("find 1 1 1 1", "claim 1 -1 -1 -1", "set 2 20");
+        for (int doubts = 1; doubts <= 508; doubts++) {
+            x.due("tell 0 0 " + (doubts % 2 == 0 ? 1 : 2), doubts);
+        }
+        x.due("points 0 0", 1012 - 20 * 508);
+        new Desk().times(511, "hand").due("count 13", 4);
+        Desk y = new Desk();
+        for (int i = 0; i < 256; i++) {
+            y.due("find 1 1 1 1", 0).due("undo", 0);
+        }
+        // Four doubts a call: far more than a claim gets by tell() alone, and the points are far below 0.
+        Desk z = new Desk().all("find 1 1 1 1", "claim 1 -1 -1 -1", "set 2 20").text("tell 0,0,2;tell 0,0,1;tell 0,0,2;tell 0,0,1;");
+        z.times(460, "play").due("claimOf 0 7", 1840).due("points 0 0", 1012 - 36800).due("why 0 0", 2);
+    }
+
     // ---- umbrellas, claims
 
     private static void aNewObject() {
@@ -460,6 +491,11 @@ public final class BoundaryTests {
         x.due("claimOf 0 4", 5).due("claimOf 0 7", 1).all("weeks 1", "find 2 2 2 2", "claim 2 2 2 2");
         x.due("umbrella 0 4", 0).due("claimOf 0 4", 0).due("claimOf 0 7", 0);
         x.all("weeks 1", "tell 0 0 3", "drop 0", "claim 2 -1 -1 -1").due("claimOf 0 4", 0).due("claimOf 0 7", 0);
+        // The 12th one that comes in the place of another has nothing of it.
+        Desk y = full().all("weeks 1", "set 0 0", "tell 11 2 0", "tell 11 2 1", "tell 11 2 0").due("claimOf 11 7", 2).due("drop 0", 11);
+        y.due("claim 3 -1 -1 -1", 11).due("claimOf 11 4", 0).due("claimOf 11 7", 0).due("claimOf 10 4", 1).due("claimOf 10 7", 2);
+        Desk z = full().all("weeks 1", "set 3 20").due("hand", 2).due("find 1 1 1 1", 10).due("find 2 2 2 2", 11);
+        z.due("umbrella 9 4", 1).due("umbrella 10 4", 0).due("umbrella 11 4", 0).due("claim 1 1 1 1", 10).due("claimOf 10 4", 0);
     }
 
     private static void oddness() {
@@ -1206,6 +1242,11 @@ public final class BoundaryTests {
         Desk y = new Desk().all("set 3 1").times(12, "find 0 0 0 0").all("claim 0 -1 -1 -1").due("mean", Float.floatToIntBits(1f));
         y.all("claim 0 0 -1 -1").due("mean", Float.floatToIntBits(1.5f)).all("claim 0 0 -1 -1").due("mean", Float.floatToIntBits(5f / 3f));
         y.all("claim 0 0 0 0").due("mean", Float.floatToIntBits(9f / 4f));
+        // Powers of 2, where the exponent goes up.
+        Desk z = new Desk().all("set 3 1").times(12, "find 0 0 0 0").all("claim 0 0 -1 -1").due("mean", Float.floatToIntBits(2f));
+        z.all("drop 0", "claim 0 0 0 0").due("mean", Float.floatToIntBits(4f));
+        Desk missed = new Desk().all("find 1 1 1 1", "claim 1 2 -1 -1").due("mean", Float.floatToIntBits(8f)).all("drop 0");
+        missed.all("claim 1 1 1 2").due("mean", Float.floatToIntBits(32f)).all("set 1 5").due("mean", Float.floatToIntBits(31f));
         full().due("mean", Float.floatToIntBits((2 * 14f + 8 * 15f + 2 * 22f) / 12f));
     }
 
@@ -1230,6 +1271,7 @@ public final class BoundaryTests {
         new Desk().due("count 4", 0).all("find 1 1 1 1").due("count 4", 0).all("claim 2 -1 -1 -1").due("count 4", 0);
         new Desk().all("claim 1 -1 -1 -1").due("count 4", 0);
         full().due("count 4", 12).all("set 3 15").due("count 4", 10).all("set 3 48").due("count 4", 0);
+        new Desk().all("find 1 1 1 1", "claim 1 -1 -1 -1").due("count 4", 1).due("count 4", 1).due("count 3", 1).due("count 4", 1);
         // All twelve claims ask all umbrellas, in the same order.
         Desk x = new Desk().all("set 3 4").times(12, "find 0 0 0 0").times(12, "claim 0 0 0 0").due("count 4", 12);
         x.all("set 3 5").due("count 4", 0);

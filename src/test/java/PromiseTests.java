@@ -809,47 +809,48 @@ public final class PromiseTests {
         String[] goods = {"", "hand;", "find 1,2,3,4;", "find 01,02,03,09;", "claim -,-,-,0;", "claim 1,-,09,-;",
             "claim 9,9,9,9;tell 0,3,8;", "claim 9,9,9,9;tell 00,03,08;", "week 20;", "week 1;week 01;", "hand;hand;hand;hand;hand;"};
         for (String good : goods) {
-            dueNoFault(x, good);
+            dueNoFault(new OddUmbrellas(), good);
         }
         String[] orders = {"find 1,2,3,4;", "find 01,12,99,04;", "claim -,1,12,-;", "tell 12,3,4;", "week 10;", "hand;"};
         for (String order : orders) {
             for (int end = 1; end < order.length(); end++) {
                 String early = order.substring(0, end);
-                dueFault(x, early, 0, 1, end);
-                dueFault(x, "hand;" + early, 5, 1, end);
-                dueFault(x, early + "!", 0, 1, end);
-                dueFault(x, "week 1;" + early + "~;hand;", 7, 1, end);
+                dueFault(new OddUmbrellas(), early, 0, 1, end);
+                dueFault(new OddUmbrellas(), "hand;" + early, 5, 1, end);
+                dueFault(new OddUmbrellas(), early + "!", 0, 1, end);
+                dueFault(new OddUmbrellas(), "week 1;" + early + "~;hand;", 7, 1, end);
             }
         }
-        dueFault(x, " ", 0, 1, 0);
-        dueFault(x, ";", 0, 1, 0);
-        dueFault(x, "hand;;", 5, 1, 0);
-        dueFault(x, "hand; hand;", 5, 1, 0);
-        dueFault(x, "Find 1,2,3,4;", 0, 1, 0);
-        dueFault(x, "drop 0;", 0, 1, 0);
-        dueFault(x, "set 0,1;", 0, 1, 0);
-        dueFault(x, "weeks 1;", 0, 1, 4);
-        dueFault(x, "week  1;", 0, 1, 5);
-        dueFault(x, "week 100;", 0, 1, 7);
-        dueFault(x, "week -1;", 0, 1, 5);
-        dueFault(x, "week -;", 0, 1, 5);
-        dueFault(x, "week ;", 0, 1, 5);
-        dueFault(x, "week 1,2;", 0, 1, 6);
-        dueFault(x, "hand ;", 0, 1, 4);
-        dueFault(x, "hands;", 0, 1, 4);
-        dueFault(x, "find 1,2,3;", 0, 1, 10);
-        dueFault(x, "find 1,2,3,4,5;", 0, 1, 12);
-        dueFault(x, "find -,2,3,4;", 0, 1, 5);
-        dueFault(x, "find 1, 2,3,4;", 0, 1, 7);
-        dueFault(x, "find 1,,3,4;", 0, 1, 7);
-        dueFault(x, "claim --,1,1,1;", 0, 1, 7);
-        dueFault(x, "claim -1,1,1,1;", 0, 1, 7);
-        dueFault(x, "claim 1-,1,1,1;", 0, 1, 7);
-        dueFault(x, "claim 1,2,3;", 0, 1, 11);
-        dueFault(x, "claim ,1,1,1;", 0, 1, 6);
-        dueFault(x, "tell 0,0;", 0, 1, 8);
-        dueFault(x, "tell 0,0,-;", 0, 1, 9);
-        dueFault(x, "tell 0,0,0,0;", 0, 1, 10);
+        dueFault(new OddUmbrellas(), " ", 0, 1, 0);
+        dueFault(new OddUmbrellas(), ";", 0, 1, 0);
+        dueFault(new OddUmbrellas(), "hand;;", 5, 1, 0);
+        dueFault(new OddUmbrellas(), "hand; hand;", 5, 1, 0);
+        dueFault(new OddUmbrellas(), "Find 1,2,3,4;", 0, 1, 0);
+        dueFault(new OddUmbrellas(), "drop 0;", 0, 1, 0);
+        dueFault(new OddUmbrellas(), "set 0,1;", 0, 1, 0);
+        dueFault(new OddUmbrellas(), "weeks 1;", 0, 1, 4);
+        dueFault(new OddUmbrellas(), "week  1;", 0, 1, 5);
+        dueFault(new OddUmbrellas(), "week 100;", 0, 1, 7);
+        dueFault(new OddUmbrellas(), "week -1;", 0, 1, 5);
+        dueFault(new OddUmbrellas(), "week -;", 0, 1, 5);
+        dueFault(new OddUmbrellas(), "week ;", 0, 1, 5);
+        dueFault(new OddUmbrellas(), "week 1,2;", 0, 1, 6);
+        dueFault(new OddUmbrellas(), "hand ;", 0, 1, 4);
+        dueFault(new OddUmbrellas(), "hands;", 0, 1, 4);
+        dueFault(new OddUmbrellas(), "find 1,2,3;", 0, 1, 10);
+        dueFault(new OddUmbrellas(), "find 1,2,3,4,5;", 0, 1, 12);
+        dueFault(new OddUmbrellas(), "find -,2,3,4;", 0, 1, 5);
+        dueFault(new OddUmbrellas(), "find 1, 2,3,4;", 0, 1, 7);
+        dueFault(new OddUmbrellas(), "find 1,,3,4;", 0, 1, 7);
+        dueFault(new OddUmbrellas(), "claim --,1,1,1;", 0, 1, 7);
+        dueFault(new OddUmbrellas(), "claim -1,1,1,1;", 0, 1, 7);
+        dueFault(new OddUmbrellas(), "claim 1-,1,1,1;", 0, 1, 7);
+        dueFault(new OddUmbrellas(), "claim 1,2,3;", 0, 1, 11);
+        dueFault(new OddUmbrellas(), "claim ,1,1,1;", 0, 1, 6);
+        dueFault(new OddUmbrellas(), "tell 0,0;", 0, 1, 8);
+        dueFault(new OddUmbrellas(), "tell 0,0,-;", 0, 1, 9);
+        dueFault(new OddUmbrellas(), "tell 0,0,0,0;", 0, 1, 10);
+        dueFault(x, "find 1,1,1,1;find", 13, 1, 4);
         due("nothing changed", x.count(13), 0);
         due("nothing changed", x.count(1), 0);
     }
